@@ -22,13 +22,13 @@ public final class LeapTables {
     private final State now = new State();
     private final History history = new History();
     private final Growth growth = new Growth();
-    private final Search search = new Search();
+    private final Answers found = new Answers();
     private final Cover covers = new Cover();
     private final Tree tree = new Tree();
     private final Rows made = new Rows();
 
-    /** The query whose answers the search holds, or NONE. */
-    private int searched = NONE;
+    /** The query whose answers are found, or NONE. */
+    private int foundFor = NONE;
 
     public LeapTables() {
         now.openTable(2);
@@ -197,7 +197,7 @@ public final class LeapTables {
         }
         history.bringBack(now);
         growth.forget();
-        searched = NONE;
+        foundFor = NONE;
         return history.kept;
     }
 
@@ -235,7 +235,7 @@ public final class LeapTables {
         needTable(table);
         needRow(table, a, b, c);
         growth.refresh(now);
-        return growth.reasonsOf(table, rowOf(a, b, c));
+        return growth.reasonsOf(now, table, rowOf(a, b, c));
     }
 
     public int rowAt(int table, int row, int column) throws IndexOutOfBoundsException {
@@ -299,7 +299,7 @@ public final class LeapTables {
         needQuery(query);
         growth.refresh(now);
         look(query);
-        return search.foundTotal;
+        return found.total;
     }
 
     public int answerAt(int query, int answer, int variable) throws IndexOutOfBoundsException {
@@ -307,15 +307,15 @@ public final class LeapTables {
         needStanding(query, variable);
         growth.refresh(now);
         look(query);
-        if (answer < 0 || answer >= search.foundTotal) {
+        if (answer < 0 || answer >= found.total) {
             throw new IndexOutOfBoundsException("no such answer");
         }
         int key = NONE;
-        for (int n = 0; n <= answer; n++) {
-            key = search.after(key);
+        for (int n = 0; n < answer; n++) {
+            key = found.after(key);
         }
-        search.pick(key);
-        return Atom.valueOf(variable, search.chosen);
+        found.pickAfter(key);
+        return Atom.valueOf(variable, found.picked);
     }
 
     public int seek(int query, int first, int second, int third, int fourth)
@@ -326,9 +326,9 @@ public final class LeapTables {
         }
         growth.refresh(now);
         look(query);
-        int wanted = search.keyOf(first, second, third, fourth);
-        int less = search.before(wanted);
-        if (less >= search.foundTotal) {
+        int wanted = found.keyOf(first, second, third, fourth);
+        int less = found.before(wanted);
+        if (less >= found.total) {
             throw new NoSuchElementException("all answers are less");
         }
         return less;
@@ -338,7 +338,7 @@ public final class LeapTables {
         needQuery(query);
         growth.refresh(now);
         look(query);
-        return search.leapTotal;
+        return found.search.leapTotal;
     }
 
     public int groups(int query, int variable) throws IndexOutOfBoundsException {
@@ -348,7 +348,7 @@ public final class LeapTables {
         look(query);
         int count = 0;
         for (int value = 0; value < VALUES; value++) {
-            count += search.sizeWith(variable, value) > 0 ? 1 : 0;
+            count += found.sizeWith(variable, value) > 0 ? 1 : 0;
         }
         return count;
     }
@@ -362,7 +362,7 @@ public final class LeapTables {
         }
         growth.refresh(now);
         look(query);
-        return search.sizeWith(variable, value);
+        return found.sizeWith(variable, value);
     }
 
     public int idleRows(int query, int atom) throws IndexOutOfBoundsException {
@@ -434,7 +434,7 @@ public final class LeapTables {
         long sum = 0;
         for (int table = 0; table < now.tableTotal; table++) {
             for (int row = 0; row < ROWS; row++) {
-                sum += growth.reasonsOf(table, row);
+                sum += growth.reasonsOf(now, table, row);
             }
         }
         return (double) sum / (double) rows;
@@ -458,7 +458,7 @@ public final class LeapTables {
         int wrong = 0;
         for (int query = 0; query < QUERIES; query++) {
             look(query);
-            wrong += search.foundTotal == countPlainly(now.query(query)) ? 0 : 1;
+            wrong += found.total == countPlainly(now.query(query)) ? 0 : 1;
         }
         for (int table = 0; table < now.tableTotal; table++) {
             wrong += rowsWithoutReason(table);
@@ -478,7 +478,7 @@ public final class LeapTables {
         }
         for (int query = 0; query < QUERIES; query++) {
             look(query);
-            sum = 31 * sum + search.foundTotal;
+            sum = 31 * sum + found.total;
         }
         return sum;
     }
@@ -513,7 +513,7 @@ public final class LeapTables {
         if (variable < 0 || variable >= VARIABLES) {
             throw new IndexOutOfBoundsException("no such variable");
         }
-        if ((now.query(query).variables(false) & 1 << variable) == 0) {
+        if ((now.query(query).variables(false) & (1 << variable)) == 0) {
             throw new IndexOutOfBoundsException("the variable does not stand in the query");
         }
     }
@@ -574,15 +574,15 @@ public final class LeapTables {
 
     /** Rows are numbered so that the numbers ascend as the rows do. */
     private static int rowOf(int a, int b, int c) {
-        return a << 6 | b << 3 | c;
+        return (a << 6) | (b << 3) | c;
     }
 
     private static int valueIn(int row, int column) {
         switch (column) {
             case 0:
-                return row >> 6 & 7;
+                return (row >> 6) & 7;
             case 1:
-                return row >> 3 & 7;
+                return (row >> 3) & 7;
             default:
                 return row & 7;
         }
@@ -598,25 +598,24 @@ public final class LeapTables {
 
     private void keepForUndo() {
         history.keep(now);
-        searched = NONE;
+        foundFor = NONE;
     }
 
-    /** Has the search hold the answers of a query, by the rows as they have been refreshed. */
+    /** Finds the answers of a query, by the rows as they have been refreshed. */
     private void look(int query) {
-        if (searched != query) {
-            search.find(now.query(query), now.orders.at(query), growth.rows);
-            searched = query;
+        if (foundFor != query) {
+            found.find(now.query(query), now.orders.at(query), growth.rows);
+            foundFor = query;
         }
     }
 
-    /** Marks the rows that an atom makes with the answers that the search holds. */
+    /** Marks the rows that an atom makes with the answers that are found. */
     private void markMade(int code) {
         made.clear();
         int key = NONE;
-        for (int n = 0; n < search.foundTotal; n++) {
-            key = search.after(key);
-            search.pick(key);
-            made.add(Atom.table(code), Atom.row(code, search.chosen));
+        for (int n = 0; n < found.total; n++) {
+            key = found.pickAfter(key);
+            made.add(Atom.table(code), Atom.row(code, found.picked));
         }
     }
 
@@ -634,7 +633,7 @@ public final class LeapTables {
             return 0;
         }
         int variables = atoms.variables(false);
-        int tries = 1 << 3 * Integer.bitCount(variables);
+        int tries = 1 << (3 * Integer.bitCount(variables));
         int count = 0;
         for (int n = 0; n < tries; n++) {
             count += allFit(atoms, Atom.spread(n, variables)) ? 1 : 0;
@@ -655,7 +654,7 @@ public final class LeapTables {
     private int rowsWithoutReason(int table) {
         int count = 0;
         for (int row = 0; row < ROWS; row++) {
-            if (growth.rows.has(table, row) && growth.reasonsOf(table, row) == 0) {
+            if (growth.rows.has(table, row) && growth.reasonsOf(now, table, row) == 0) {
                 count++;
             }
         }
@@ -702,7 +701,7 @@ public final class LeapTables {
 
         boolean has(int table, int row) {
             int place = table * VALUES + (row >> 6);
-            return place >= 0 && place < words.length && (words[place] >> (row & 63) & 1) != 0;
+            return place >= 0 && place < words.length && ((words[place] >> (row & 63)) & 1) != 0;
         }
 
         void add(int table, int row) {
@@ -792,7 +791,7 @@ public final class LeapTables {
             int set = 1 << a;
             set |= width > 1 ? 1 << b : 0;
             set |= width > 2 ? 1 << c : 0;
-            return table | width << 3 | a << 5 | b << 7 | c << 9 | set << 11;
+            return table | (width << 3) | (a << 5) | (b << 7) | (c << 9) | (set << 11);
         }
 
         static int withNot(int code) {
@@ -808,32 +807,36 @@ public final class LeapTables {
         }
 
         static int width(int code) {
-            return code >> 3 & 3;
+            return (code >> 3) & 3;
         }
 
         static int variable(int code, int column) {
-            boolean isThere = column >= 0 && column < (code >> 3 & 3);
-            return isThere ? code >> 5 + 2 * column & 3 : NONE;
+            boolean isThere = column >= 0 && column < ((code >> 3) & 3);
+            return isThere ? (code >> (5 + 2 * column)) & 3 : NONE;
         }
 
         static int variables(int code) {
-            return code >> 11 & 15;
+            return (code >> 11) & 15;
+        }
+
+        static boolean stands(int code, int variable) {
+            return ((code >> (11 + variable)) & 1) != 0;
         }
 
         static int withValue(int chosen, int variable, int value) {
-            return chosen & ~(15 << 4 * variable) | (8 | value) << 4 * variable;
+            return (chosen & ~(15 << (4 * variable))) | ((8 | value) << (4 * variable));
         }
 
         static int withoutValue(int chosen, int variable) {
-            return chosen & ~(15 << 4 * variable);
+            return chosen & ~(15 << (4 * variable));
         }
 
         static boolean hasValue(int variable, int chosen) {
-            return (chosen >> 4 * variable & 8) != 0;
+            return ((chosen >> (4 * variable)) & 8) != 0;
         }
 
         static int valueOf(int variable, int chosen) {
-            return chosen >> 4 * variable & 7;
+            return (chosen >> (4 * variable)) & 7;
         }
 
         /** Gives the variables of a set the values that are the digits of a number to the base of 8. */
@@ -841,7 +844,7 @@ public final class LeapTables {
             int rest = number;
             int chosen = 0;
             for (int variable = 0; variable < VARIABLES; variable++) {
-                if ((variables & 1 << variable) != 0) {
+                if ((variables & (1 << variable)) != 0) {
                     chosen = withValue(chosen, variable, rest & 7);
                     rest >>= 3;
                 }
@@ -854,7 +857,7 @@ public final class LeapTables {
             int row = 0;
             for (int column = 0; column < MOST_COLUMNS; column++) {
                 int variable = variable(code, column);
-                row = row << 3 | (variable == NONE ? 0 : valueOf(variable, chosen));
+                row = (row << 3) | (variable == NONE ? 0 : valueOf(variable, chosen));
             }
             return row;
         }
@@ -906,7 +909,7 @@ public final class LeapTables {
         int standing(int variable) {
             int count = 0;
             for (int i = 0; i < size; i++) {
-                count += Atom.variables(codes.at(i)) >> variable & 1;
+                count += Atom.stands(codes.at(i), variable) ? 1 : 0;
             }
             return count;
         }
@@ -916,7 +919,7 @@ public final class LeapTables {
             int place = turn;
             for (int step = 0; step < size; step++) {
                 place = place + 1 >= size ? 0 : place + 1;
-                if ((Atom.variables(codes.at(place)) >> variable & 1) != 0) {
+                if (Atom.stands(codes.at(place), variable)) {
                     return place;
                 }
             }
@@ -1033,7 +1036,7 @@ public final class LeapTables {
         }
     }
 
-    /** Finds the values with which all atoms fit, by leaps; atoms with not are left out. */
+    /** Goes by leaps from answer to answer of some atoms; those with not are left out. */
     private static final class Search {
         private static final long EIGHT_ROWS = 0xFFL;
         private static final long EACH_EIGHTH = 0x0101010101010101L;
@@ -1045,31 +1048,18 @@ public final class LeapTables {
         private final Ints reached = new Ints(VARIABLES);
         private final Ints tellers = new Ints(VARIABLES);
         private final Ints turns = new Ints(VARIABLES);
-        private final Ints prefixes = new Ints(VARIABLES);
-        private final long[] found = new long[KEYS / 64];
+        private final Ints keys = new Ints(VARIABLES);
         private int variableTotal;
-        private int foundTotal;
+        private int depth;
         private int leapTotal;
+
+        /** The values that are chosen, at an answer those of all variables. */
         private int chosen;
 
-        void find(AtomList list, int order, Rows rows) {
-            start(list, order);
-            int depth = variableTotal > 0 ? 0 : NONE;
-            for (int n = 0; depth >= 0 && n < MANY; n++) {
-                int value = ask(depth, rows);
-                if (value == NONE) {
-                    depth = goBack(depth);
-                } else if (tellers.at(depth) >= askers.at(depth)) {
-                    depth = choose(depth, value);
-                }
-            }
-        }
+        /** The values of the answer as the digits of a number to the base of 8, in the order of the variables. */
+        private int key;
 
-        private void start(AtomList list, int order) {
-            Arrays.fill(found, 0L);
-            foundTotal = 0;
-            leapTotal = 0;
-            chosen = 0;
+        void start(AtomList list, int order) {
             atoms.clear();
             for (int i = 0; i < list.size; i++) {
                 if (!Atom.isNot(list.at(i))) {
@@ -1080,27 +1070,53 @@ public final class LeapTables {
             variableTotal = 0;
             for (int place = 0; place < VARIABLES; place++) {
                 int variable = digitOf(order, place);
-                if ((variables >> variable & 1) != 0) {
+                if ((variables & (1 << variable)) != 0) {
                     sequence.put(variableTotal, variable);
                     askers.put(variableTotal, atoms.standing(variable));
                     variableTotal++;
                 }
             }
-            begin(0, 0);
+            leapTotal = 0;
+            chosen = 0;
+            key = 0;
+            depth = NONE;
+            if (variableTotal > 0) {
+                begin();
+            }
         }
 
-        private void begin(int depth, int prefix) {
+        /** Goes on to the next answer; false if there is none. */
+        boolean advance(Rows rows) {
+            for (int n = 0; depth >= 0 && n < MANY; n++) {
+                int value = ask(rows);
+                if (value == NONE) {
+                    depth--;
+                } else if (tellers.at(depth) >= askers.at(depth)) {
+                    choose(value);
+                    if (depth + 1 >= variableTotal) {
+                        return true;
+                    }
+                    begin();
+                }
+            }
+            return false;
+        }
+
+        /** Begins the next variable. */
+        private void begin() {
+            depth++;
             reached.put(depth, 0);
             tellers.put(depth, 0);
             turns.put(depth, NONE);
-            prefixes.put(depth, prefix);
+            keys.put(depth, key);
         }
 
         /** One leap: asks the next atom in turn for the least value that is not less than the one reached. */
-        private int ask(int depth, Rows rows) {
+        private int ask(Rows rows) {
             int variable = sequence.at(depth);
             int turn = atoms.nextWith(variable, turns.at(depth));
             int x = reached.at(depth);
+            chosen = Atom.withoutValue(chosen, variable);
             int value = least(atoms.at(turn), variable, x, rows);
             leapTotal++;
             if (value != NONE) {
@@ -1111,38 +1127,12 @@ public final class LeapTables {
             return value;
         }
 
-        private int choose(int depth, int value) {
-            int key = prefixes.at(depth) << 3 | value;
-            if (depth + 1 < variableTotal) {
-                chosen = Atom.withValue(chosen, sequence.at(depth), value);
-                begin(depth + 1, key);
-                return depth + 1;
-            }
-            put(key);
-            goOn(depth);
-            return depth;
-        }
-
-        private int goBack(int depth) {
-            int ahead = depth - 1;
-            if (ahead >= 0) {
-                chosen = Atom.withoutValue(chosen, sequence.at(ahead));
-                goOn(ahead);
-            }
-            return ahead;
-        }
-
-        private void goOn(int depth) {
-            reached.put(depth, reached.at(depth) + 1);
+        /** Chooses a value, and has its variable go on behind it when it is its turn again. */
+        private void choose(int value) {
+            chosen = Atom.withValue(chosen, sequence.at(depth), value);
+            key = (keys.at(depth) << 3) | value;
+            reached.put(depth, value + 1);
             tellers.put(depth, 0);
-        }
-
-        private void put(int key) {
-            int place = key >> 6;
-            if (place >= 0 && place < found.length) {
-                found[place] |= 1L << (key & 63);
-                foundTotal++;
-            }
         }
 
         /** The least value from x on that a variable has in a row that fits what is chosen. */
@@ -1153,14 +1143,14 @@ public final class LeapTables {
             long open = mask(second, EIGHT_ROWS, 8) & mask(third, EACH_EIGHTH, 1);
             open &= second != NONE && second == third ? ALIKE : -1L;
             long joined = 0;
-            for (int value = 0; value < VALUES; value++) {
-                if (Atom.hasValue(first, chosen) && Atom.valueOf(first, chosen) != value) {
-                    continue;
-                }
+            boolean isPinned = Atom.hasValue(first, chosen);
+            int from = isPinned ? Atom.valueOf(first, chosen) : first == variable ? x : 0;
+            int end = isPinned ? from + 1 : VALUES;
+            for (int value = from; value < end; value++) {
                 long cells = rows.word(Atom.table(code), value) & open;
-                cells &= second == first ? EIGHT_ROWS << 8 * value : -1L;
+                cells &= second == first ? EIGHT_ROWS << (8 * value) : -1L;
                 cells &= third == first ? EACH_EIGHTH << value : -1L;
-                if (first == variable && value >= x && cells != 0) {
+                if (first == variable && cells != 0) {
                     return value;
                 }
                 joined |= cells;
@@ -1170,7 +1160,7 @@ public final class LeapTables {
 
         private int leastIn(long joined, int x, boolean isSecond) {
             for (int value = x; value < VALUES; value++) {
-                long cells = isSecond ? EIGHT_ROWS << 8 * value : EACH_EIGHTH << value;
+                long cells = isSecond ? EIGHT_ROWS << (8 * value) : EACH_EIGHTH << value;
                 if ((joined & cells) != 0) {
                     return value;
                 }
@@ -1180,53 +1170,86 @@ public final class LeapTables {
 
         /** The rows that a column leaves open: those with the value of its variable, all if it has none. */
         private long mask(int variable, long ofValueZero, int step) {
-            if (variable == NONE || (chosen >> 4 * variable & 8) == 0) {
+            if (variable == NONE) {
                 return -1L;
             }
-            return ofValueZero << step * (chosen >> 4 * variable & 7);
+            int own = (chosen >> (4 * variable)) & 15;
+            return own == 0 ? -1L : ofValueZero << (step * (own & 7));
+        }
+    }
+
+    /** All answers of a query, as the set of their keys; ascending keys are the order of the answers. */
+    private static final class Answers {
+        private final Search search = new Search();
+        private final long[] words = new long[KEYS / 64];
+        private int total;
+
+        /** The values of the answer that was picked. */
+        private int picked;
+
+        void find(AtomList atoms, int order, Rows rows) {
+            Arrays.fill(words, 0L);
+            total = 0;
+            search.start(atoms, order);
+            for (int n = 0; n <= KEYS && search.advance(rows); n++) {
+                int place = search.key >> 6;
+                if (place >= 0 && place < words.length) {
+                    words[place] |= 1L << (search.key & 63);
+                    total++;
+                }
+            }
         }
 
-        /** The next key of an answer behind a key, or NONE. */
+        /** The next key behind a key, or NONE. */
         int after(int key) {
-            for (int next = key + 1; next < KEYS; next++) {
+            int next = key + 1;
+            for (int n = 0; n < KEYS && next >= 0 && next < KEYS; n++) {
                 int place = next >> 6;
-                if (place >= 0 && place < found.length && (found[place] >> (next & 63) & 1) != 0) {
+                long rest = place < words.length ? words[place] >>> (next & 63) : 0;
+                if ((rest & 1) != 0) {
                     return next;
                 }
+                next = rest == 0 ? (place + 1) * 64 : next + 1;
             }
             return NONE;
         }
 
-        /** How many answers have a lesser key. */
+        /** How many keys are less than a key. */
         int before(int key) {
-            int count = 0;
-            for (int less = after(NONE); less != NONE && less < key && count < KEYS; less = after(less)) {
-                count++;
+            int less = NONE;
+            for (int n = 0; n < total; n++) {
+                less = after(less);
+                if (less >= key) {
+                    return n;
+                }
             }
-            return count;
+            return total;
         }
 
-        /** Gives the variables the values of the answer with a key. */
-        void pick(int key) {
-            chosen = 0;
-            for (int depth = 0; depth < variableTotal; depth++) {
-                int value = key >> 3 * (variableTotal - 1 - depth) & 7;
-                chosen = Atom.withValue(chosen, sequence.at(depth), value);
+        /** Picks the next answer behind the one with a key, and tells its key. */
+        int pickAfter(int key) {
+            int next = after(key);
+            picked = 0;
+            int rest = next;
+            for (int depth = search.variableTotal - 1; depth >= 0; depth--) {
+                picked = Atom.withValue(picked, search.sequence.at(depth), rest & 7);
+                rest >>= 3;
             }
+            return next;
         }
 
+        /** The key that an answer with these values would have, the first variable first. */
         int keyOf(int first, int second, int third, int fourth) {
-            int all = first << 9 | second << 6 | third << 3 | fourth;
-            return all >> 3 * (VARIABLES - variableTotal);
+            int all = (first << 9) | (second << 6) | (third << 3) | fourth;
+            return all >> (3 * (VARIABLES - search.variableTotal));
         }
 
         int sizeWith(int variable, int value) {
             int count = 0;
             int key = NONE;
-            for (int n = 0; n < foundTotal; n++) {
-                key = after(key);
-                pick(key);
-                count += Atom.valueOf(variable, chosen) == value ? 1 : 0;
+            for (int n = 0; n < total; n++) {
+                key = pickAfter(key);
+                count += Atom.valueOf(variable, picked) == value ? 1 : 0;
             }
             return count;
         }
@@ -1269,7 +1292,8 @@ public final class LeapTables {
                     goesOn = rows.take(fresh);
                 }
             }
-            countReasons(state);
+            fired.fill(0);
+            reasonTotals.fill(0);
             for (int rule = 0; rule < state.ruleTotal; rule++) {
                 if (!state.rests(rule)) {
                     fire(state, rule);
@@ -1290,25 +1314,12 @@ public final class LeapTables {
             return !state.rests(rule) && layers.at(Atom.table(state.heads.at(rule))) == layer;
         }
 
-        /** Counts anew: the facts as reasons, and no firing so far. */
-        private void countReasons(State state) {
-            fired.fill(0);
-            for (int table = 0; table < MOST_TABLES; table++) {
-                for (int row = 0; row < ROWS; row++) {
-                    reasonTotals.put(table * ROWS + row, state.facts.has(table, row) ? 1 : 0);
-                }
-            }
-        }
-
         /** Applies a rule to the rows as they are, and counts what it gives. */
         private void fire(State state, int rule) {
             AtomList body = state.body(rule);
             int head = state.heads.at(rule);
-            search.find(body, FIRST_ORDER, rows);
-            int key = NONE;
-            for (int n = 0; n < search.foundTotal; n++) {
-                key = search.after(key);
-                search.pick(key);
+            search.start(body, FIRST_ORDER);
+            for (int n = 0; n <= KEYS && search.advance(rows); n++) {
                 if (isBarred(body)) {
                     continue;
                 }
@@ -1320,7 +1331,7 @@ public final class LeapTables {
             }
         }
 
-        /** Whether an atom with not fits the values that the search has picked. */
+        /** Whether an atom with not fits the values that the search has chosen. */
         private boolean isBarred(AtomList body) {
             for (int i = 0; i < body.size; i++) {
                 int code = body.at(i);
@@ -1331,8 +1342,8 @@ public final class LeapTables {
             return false;
         }
 
-        int reasonsOf(int table, int row) {
-            return reasonTotals.at(table * ROWS + row);
+        int reasonsOf(State state, int table, int row) {
+            return reasonTotals.at(table * ROWS + row) + (state.facts.has(table, row) ? 1 : 0);
         }
 
         boolean staysLayered(State state, int rule, int more) {
@@ -1344,7 +1355,7 @@ public final class LeapTables {
             layers.fill(0);
             boolean isRaised = true;
             // A way from table to table has at most four steps, so what still rises in the fifth pass rises for ever.
-            for (int pass = 0; isRaised && pass <= MOST_TABLES; pass++) {
+            for (int pass = 0; isRaised && pass < MOST_TABLES; pass++) {
                 isRaised = false;
                 for (int rule = 0; rule < state.ruleTotal; rule++) {
                     AtomList body = state.body(rule);
@@ -1455,7 +1466,7 @@ public final class LeapTables {
                 int count = 0;
                 int last = NONE;
                 for (int i = 0; i < size; i++) {
-                    if (sets.at(i) != GONE && (sets.at(i) >> variable & 1) != 0) {
+                    if (sets.at(i) != GONE && (sets.at(i) & (1 << variable)) != 0) {
                         count++;
                         last = i;
                     }

@@ -9,22 +9,44 @@ final class Script {
     private final String name;
     private final LeapTables tables = new LeapTables();
 
-    Script(String name) {
+    private Script(String name) {
         this.name = name;
     }
 
-    /** A line is a call and its answer: "addFact 0 5 5 0 = 7", or "columns 9 = IndexOutOfBoundsException". */
-    Script says(String... lines) {
+    /** A run for a promise, told by its number and a few words. */
+    static Script promise(String name, String... lines) {
+        Script script = new Script("promise " + name);
+        script.says(lines);
+        return script;
+    }
+
+    /** A line is a call and its answer, "addFact 0 5 5 0 = 7", or a short name of what it throws, "columns 9 = INDEX". */
+    void says(String... lines) {
         for (String line : lines) {
             String[] sides = line.split(" = ");
-            String got = answer(tables, sides[0].trim().split(" +"));
+            String got = answer(tables, sides[0].split(" "));
+            String due = whole(sides[1]);
             calls++;
-            if (!got.equals(sides[1].trim())) {
+            if (!got.equals(due)) {
                 wrong++;
-                System.out.println(name + ": " + sides[0].trim() + " answered " + got + ", due is " + sides[1].trim());
+                System.out.println(name + ": " + sides[0] + " answered " + got + ", due is " + due);
             }
         }
-        return this;
+    }
+
+    private static String whole(String due) {
+        switch (due) {
+            case "INDEX":
+                return "IndexOutOfBoundsException";
+            case "ARGUMENT":
+                return "IllegalArgumentException";
+            case "STATE":
+                return "IllegalStateException";
+            case "NOSUCH":
+                return "NoSuchElementException";
+            default:
+                return due;
+        }
     }
 
     /** Calls a method of any object by its name; tells its answer, or the name of what it throws. */
