@@ -149,6 +149,9 @@ public final class Promises1To12Test {
             "leaps 0 = 0", "groups 0 {0 1 2} = INDEX", "idleRows 0 0 = INDEX", "isTree 0 = true", "cover 0 = 0",
             "bound 0 = 1", "atomCount 1 = 2", "answers 1 = 3", "addAtom 0 2 3 0 0 = 0", "answers 0 = 1",
             "groups 0 0 = INDEX");
+        sentence(6, "Takes all atoms of a query away", "leaps 0 = 41", "clearQuery 0 = 3", "addAtom 0 0 0 1 0 = 0",
+            "answers 0 = 6", "leaps 0 = 15", "isTree 0 = true", "cover 0 = 2", "bound 0 = 36", "groups 0 2 = INDEX",
+            "idleRows 0 0 = 0", "errors = 0");
         sentence(6, "; its order stays.", "setOrder 0 3201 = 123", "clearQuery 0 = 3", "addAtom 0 0 0 1 0 = 0",
             "answerAt 0 0 0 = 0", "setOrder 0 123 = 3201", "setOrder 2 1032 = 123", "clearQuery 2 = 0",
             "addAtom 2 0 0 1 0 = 0", "answerAt 2 0 1 = 0", "answerAt 2 0 0 = 2", "setOrder 2 123 = 1032");
@@ -188,6 +191,11 @@ public final class Promises1To12Test {
         sentence(8, "Takes back all facts of the table of an atom that are idle", "removeFact 2 3 0 0 = 0",
             "clearIdle 1 0 = 0", "addFact 1 7 7 0 = 1", "clearIdle 1 0 = 1", "clearIdle 1 1 = 0",
             "addAtom 0 2 0 0 0 = 3", "clearIdle 0 0 = 6", "rowCount {0 1} = 0");
+        // The facts of the tables beside it stay.
+        sentence(8, "Takes back all facts of the table of an atom that are idle", "addFact 1 0 5 0 = 1",
+            "addFact 1 7 5 0 = 2", "clearIdle 0 0 = 3", "factCount 1 = 2", "factCount 2 = 1", "addFact 0 7 7 0 = 4",
+            "addFact 2 0 0 0 = 2", "addAtom 2 1 3 3 0 = 0", "clearIdle 2 0 = 2", "isFact 0 7 7 0 = true",
+            "isFact 2 {0 3} 0 0 = true", "factCount 0 = 4", "factCount 1 = 0");
         sentence(8, "(Rows that rules add stay as the rules make them then.)", "addFact 1 3 4 0 = 1",
             "addFact 1 2 3 0 = 2", "addFact 1 5 3 0 = 3", "addFact 1 6 6 0 = 4", "rowCount 1 = 19", "clearIdle 1 0 = 2",
             "isFact 1 {2 5} 3 0 = true", "isFact 1 3 4 0 = false", "reasons 1 3 4 0 = 1", "rowCount 1 = 18",
@@ -210,6 +218,10 @@ public final class Promises1To12Test {
         sentence(9, "Adds a rule without atoms.", "addRule 0 0 1 0 = 2", "ruleCount = 3", "isIdle 2 = true",
             "firings 2 = 0", "rounds = 4", "addRuleAtom 2 0 1 0 0 false = 1", "isIdle 2 = false", "rowCount 0 = 10",
             "undo = 1", "undo = 0", "addRule 0 0 1 0 = 2", "isIdle 2 = true");
+        sentence(9, "Adds a rule without atoms.", "addRule 2 1 0 0 = 2", "addRuleAtom 2 0 0 1 0 false = 1",
+            "addRuleAtom 2 0 1 0 0 true = 2", "firings 2 = 4", "layerOf 2 = 1", "dropRule 2 = 2", "addRule 2 1 0 0 = 2",
+            "isIdle 2 = true", "layerOf 2 = 0", "rowCount 2 = 1", "addRuleAtom 2 0 0 1 0 false = 1", "firings 2 = 6",
+            "layerOf 2 = 0", "rowCount 2 = 5");
         sentence(9, "`table`: the table of its head", "addTable 3 = 3", "addRule 3 0 0 0 = 2",
             "addRuleAtom 2 2 0 0 0 false = 1", "rowCount 3 = 1", "reasons 3 3 3 3 = 1", "addRule 0 0 0 0 = 3",
             "addRuleAtom 3 2 0 0 0 false = 1", "reasons 0 3 3 0 = 1");

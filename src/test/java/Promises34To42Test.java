@@ -101,6 +101,8 @@ public final class Promises34To42Test {
         allRows(39, "the sum of the reasons of all rows of all tables as a double").says("meanReasons = " + (6 + 6 + 18
             + 8 + 512) / (6 + 16 + 8 + 512.0), "addRule 0 0 1 0 = 3", "addRuleAtom 3 3 0 1 2 false = 1",
             "rowCount {0 1} = 64", "meanReasons = " + (6 + 512 + 64 + 512 + 8 + 512) / (64 + 64 + 8 + 512.0));
+        sentence(39, "divided by the number of these rows as a double;", "addTable 3 = 3", "addTable 3 = 4",
+            "addFact 3 7 7 7 = 1", "meanReasons = " + 32 / 24.0, "addFact 4 0 0 0 = 1", "meanReasons = " + 33 / 25.0);
         sentence(39, "0.0 without rows.", "removeFact 0 0 1 0 = 5", "removeFact 0 0 2 0 = 4", "removeFact 0 1 2 0 = 3",
             "removeFact 0 2 0 0 = 2", "removeFact 0 2 3 0 = 1", "removeFact 0 3 4 0 = 0", "meanReasons = 1.0",
             "removeFact 2 3 0 0 = 0", "meanReasons = 0.0", "addFact 1 7 7 0 = 1", "meanReasons = 1.0");
@@ -162,6 +164,10 @@ public final class Promises34To42Test {
             "dropRule 1 = 1", "dropRule 0 = 0", "addTable 3 = 3", "addFact 3 7 6 5 = 1", "addFact 3 7 5 6 = 2",
             "addFact 1 4 0 0 = 1", "addFact 1 0 6 0 = 2", "checksum = " + wrapped(List.of(0, 1, 0, 2, 1, 2, 2, 0, 2, 3,
             3, 4, 0, 6, 4, 0, 3, 7, 5, 6, 7, 6, 5, 3, 0, 0, 0), true));
+        sentence(42, "for each table in order and each of its rows in order", "dropRule 1 = 1", "dropRule 0 = 0",
+            "addTable 3 = 3", "addTable 3 = 4", "addFact 3 7 7 7 = 1", "checksum = "
+            + wrapped(List.of(0, 1, 0, 2, 1, 2, 2, 0, 2, 3, 3, 4, 3, 7, 7, 7, 3, 0, 0, 0), true), "addFact 4 0 0 0 = 1",
+            "checksum = " + wrapped(List.of(0, 1, 0, 2, 1, 2, 2, 0, 2, 3, 3, 4, 3, 7, 7, 7, 0, 0, 0, 3, 0, 0, 0), true));
     }
 
     private static void checksumOfManyRows() {

@@ -4,6 +4,7 @@ public final class Sections1To3Test {
         tables();
         rowsAsTold();
         facts();
+        tablesBeside();
         variables();
         atomsAsTold();
         queries();
@@ -83,6 +84,28 @@ public final class Sections1To3Test {
         }
         more.says("rowCount 1 = 61", "rowAt 1 60 0 = 7", "rowAt 1 60 1 = 4", "rowAt 1 61 0 = INDEX",
             "isFact 1 7 4 0 = false");
+    }
+
+    /** A table has nothing of the tables beside it, though these have the first and the last row that there can be. */
+    private static void tablesBeside() {
+        String words = "The rows of a table are its facts and what the rules add (section 4).";
+        Script script = Script.sentence("section 1", words, "addTable 3 = 3", "addTable 3 = 4", "addFact 3 0 0 0 = 1",
+            "addFact 3 7 7 7 = 2", "addFact 2 0 0 0 = 2", "addFact 2 7 0 0 = 3");
+        noRows(script, 4);
+        script.says("addFact 4 7 7 7 = 1", "addFact 4 0 0 0 = 2", "removeFact 3 0 0 0 = 1", "removeFact 3 7 7 7 = 0");
+        noRows(script, 3);
+        script.says("addFact 3 3 3 3 = 1", "rowCount 3 = 1", "values 3 {0 1 2} = 1", "rowAt 3 0 {0 1 2} = 3",
+            "rowAt 3 1 0 = INDEX", "firstFrom 3 0 0 0 = 0", "firstFrom 3 3 3 3 = 0", "firstFrom 3 3 3 4 = NOSUCH",
+            "firstFrom 4 7 7 7 = 1", "lower 3 8 = 3", "lower 3 3 = NOSUCH", "addAtom 2 3 0 1 2 = 0", "answers 2 = 1",
+            "idleRows 2 0 = 0", "bound 2 = 1", "leaps 2 = 6");
+    }
+
+    private static void noRows(Script script, int table) {
+        for (String line : new String[] {"rowCount # = 0", "factCount # = 0", "values # {0 1 2} = 0",
+            "firstFrom # {0 7} {0 7} {0 7} = NOSUCH", "lower # {0 1 7 8} = NOSUCH", "rowAt # {-1 0 1} {0 1 2} = INDEX",
+            "reasons # {0 7} {0 7} {0 7} = 0", "isFact # {0 7} {0 7} {0 7} = false"}) {
+            script.says(line.replace("#", "" + table));
+        }
     }
 
     private static void variables() {

@@ -30,9 +30,11 @@ public final class Sections4To6Test {
         rounds();
         roundsThatCount();
         reasons();
+        reasonsWithNotFirst();
         trees();
         treesInAnyOrder();
         covers();
+        coversInAnyOrder();
         changes();
         latestChanges();
         undoing();
@@ -210,6 +212,15 @@ public final class Sections4To6Test {
             "reasons 2 {0 1} 0 0 = 1", "reasons 2 3 0 0 = 1", "reasons 2 4 0 0 = 0", "firings 2 = 2");
     }
 
+    private static void reasonsWithNotFirst() {
+        // The atom with not is the first one: 0 2 and 2 0 are there the other way round as well.
+        Script.sentence("section 4", ", all of these fit, no atom with not fits, and the row of the head is this one.",
+            "addRule 2 1 0 0 = 2", "addRuleAtom 2 0 1 0 0 true = 1", "addRuleAtom 2 0 0 1 0 false = 2", "firings 2 = 4",
+            "rowCount 2 = 4", "reasons 2 {1 2 4} 0 0 = 1", "reasons 2 3 0 0 = 2", "reasons 2 0 0 0 = 0",
+            "addRuleAtom 2 0 3 3 0 true = 3", "isIdle 2 = true", "undo = 3", "addRuleAtom 2 1 1 1 0 true = 3",
+            "firings 2 = 2", "rowCount 2 = 2", "reasons 2 {1 2} 0 0 = 0", "reasons 2 3 0 0 = 2");
+    }
+
     private static void trees() {
         Script.sentence("section 5",
             "A query is a tree if nothing is left of its atoms when, as long as one of both can be done, "
@@ -228,6 +239,10 @@ public final class Sections4To6Test {
             "isTree 2 = true", "addAtom 2 2 1 0 0 = 1", "isTree 2 = true", "addAtom 2 2 2 0 0 = 2",
             "addAtom 2 2 3 0 0 = 3", "isTree 2 = true", "addAtom 0 2 3 0 0 = 3", "isTree 0 = false",
             "addAtom 3 0 0 1 0 = 0", "addAtom 3 0 2 3 0 = 1", "isTree 3 = true");
+        // A query of more atoms that is none, looked at just before, has nothing to do with it.
+        Script.sentence("section 5", "(also an atom without variables that are left) goes.", "addTable 3 = 3",
+            "addAtom 2 0 0 3 0 = 0", "addAtom 2 0 3 1 0 = 1", "addAtom 2 0 2 3 0 = 2", "addAtom 2 3 0 1 2 = 3",
+            "isTree 2 = false", "isTree 0 = false", "isTree 1 = true", "isTree 0 = false");
         Script.sentence("section 5", "A single atom goes when it has no variables left.", "addAtom 2 2 3 0 0 = 0",
             "isTree 2 = true", "addAtom 3 0 1 3 0 = 0", "isTree 3 = true", "clearQuery 3 = 1", "addAtom 3 0 1 1 0 = 0",
             "isTree 3 = true", "addTable 3 = 3", "clearQuery 3 = 1", "addAtom 3 3 0 1 2 = 0", "isTree 3 = true");
@@ -286,6 +301,19 @@ public final class Sections4To6Test {
             "addAtom 2 3 2 1 2 = 0", "bound 2 = 9", "clearQuery 2 = 1", "addAtom 2 3 3 3 3 = 0", "bound 2 = 4",
             "addAtom 2 1 3 3 0 = 1", "bound 2 = 4", "addAtom 2 0 3 3 0 = 2", "bound 2 = 0", "clearQuery 2 = 3",
             "addAtom 2 1 3 3 0 = 0", "bound 2 = 9");
+    }
+
+    /** One atom for the variable 0 takes 2 halves, and three of two variables each take a half: no less will do. */
+    private static void coversInAnyOrder() {
+        List<String> atoms = List.of("2 0 0 0", "0 1 2 0", "0 2 3 0", "0 3 1 0", "1 2 3 0");
+        for (List<Integer> places : permutations(5)) {
+            Script script = Script.sentence("section 5", "A cover in halves gives each atom of a query 0, 1 or 2 halves",
+                "addFact 2 7 0 0 = 2");
+            for (int n = 0; n < 5; n++) {
+                script.says("addAtom 2 " + atoms.get(places.get(n)) + " = " + n);
+            }
+            script.says("cover 2 = 5", "bound 2 = 864");
+        }
     }
 
     private static void changes() {
