@@ -10,8 +10,8 @@ import java.util.regex.Matcher;
 import java.util.regex.Pattern;
 
 /**
- * The words of ../shared/DOC.md by their parts, "section 1" to "section 6" and "promise 1" to "promise 42", so that each
- * test tells the sentence that it holds the class to, and a sentence that no test tells is found.
+ * The words of ../shared/DOC.md by their parts, "what it is", "section 1" to "section 6" and "promise 1" to "promise 42",
+ * so that each test tells the sentence that it holds the class to, and a sentence that no test tells is found.
  */
 final class Document {
     private static final Path FILE = Path.of("../shared/DOC.md");
@@ -50,7 +50,7 @@ final class Document {
             } else if (promise.matches()) {
                 part = "promise " + promise.group(1);
             } else if (line.startsWith("## ")) {
-                part = "";
+                part = line.equals("## What it is") ? "what it is" : "";
             } else if (!part.isEmpty() && !line.isBlank() && !line.startsWith("Ahead of the calls ")) {
                 PARTS.merge(part, line + "\n", String::concat);
             }

@@ -1,6 +1,7 @@
 /** Each sentence of the sections 1 to 3 of the document: tables; variables, atoms, queries; leaps. */
 public final class Sections1To3Test {
     public static void main(String[] args) {
+        manyCalls();
         tables();
         rowsAsTold();
         facts();
@@ -16,6 +17,14 @@ public final class Sections1To3Test {
         wherexBegins();
         choosing();
         Script.endOf("section", 1, 3);
+    }
+
+    private static void manyCalls() {
+        Script script = Script.sentence("what it is", "An object is used for at most 512 calls after it has been made");
+        for (int n = 0; n < 170; n++) {
+            script.says("addFact 1 7 7 0 = 1", "rowCount 1 = 17", "removeFact 1 7 7 0 = 0");
+        }
+        script.says("removeFact 1 7 7 0 = NOSUCH", "checksum = 26425950");
     }
 
     private static void tables() {
@@ -92,7 +101,9 @@ public final class Sections1To3Test {
         Script script = Script.sentence("section 1", words, "addTable 3 = 3", "addTable 3 = 4", "addFact 3 0 0 0 = 1",
             "addFact 3 7 7 7 = 2", "addFact 2 0 0 0 = 2", "addFact 2 7 0 0 = 3");
         noRows(script, 4);
-        script.says("addFact 4 7 7 7 = 1", "addFact 4 0 0 0 = 2", "removeFact 3 0 0 0 = 1", "removeFact 3 7 7 7 = 0");
+        script.says("addFact 4 7 7 7 = 1", "rowAt 4 0 {0 1 2} = 7", "firstFrom 4 {0 7} 7 7 = 0", "addFact 4 0 0 0 = 2",
+            "rowAt 4 0 {0 1 2} = 0", "rowAt 4 1 {0 1 2} = 7", "firstFrom 4 0 0 0 = 0", "firstFrom 4 0 0 1 = 1",
+            "removeFact 3 0 0 0 = 1", "removeFact 3 7 7 7 = 0");
         noRows(script, 3);
         script.says("addFact 3 3 3 3 = 1", "rowCount 3 = 1", "values 3 {0 1 2} = 1", "rowAt 3 0 {0 1 2} = 3",
             "rowAt 3 1 0 = INDEX", "firstFrom 3 0 0 0 = 0", "firstFrom 3 3 3 3 = 0", "firstFrom 3 3 3 4 = NOSUCH",

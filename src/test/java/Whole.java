@@ -5,6 +5,9 @@ import java.util.List;
 final class Whole {
     private static final int MOST_CALLS = 512;
 
+    /** One more than there can be. */
+    private static final int MOST_UNDOS = 11;
+
     private final List<String> before;
     private final StringBuilder text = new StringBuilder();
     private LeapTables object;
@@ -123,7 +126,7 @@ final class Whole {
             told.add("factCount " + table);
             told.add("layerOf " + table);
         }
-        while (!ask("undo").equals("-1")) {
+        for (int n = 0; n < MOST_UNDOS && !ask("undo").equals("-1"); n++) {
             told.forEach(this::ask);
         }
     }
