@@ -18,6 +18,7 @@ public final class LeapTables {
     private static final int KEYS = 4096;
     private static final int FIRST_ORDER = 123;
     private static final int MANY = 1000000;
+    private static final long GREATEST = 0x7FFFFFFFFFFFFFFFL;
 
     private final State now = new State();
     private final History history = new History();
@@ -253,7 +254,7 @@ public final class LeapTables {
         needTable(table);
         needRow(table, a, b, c);
         growth.refresh(now);
-        int less = growth.rows.below(table, rowOf(a, b, c));
+        int less = growth.rows.countBelow(table, rowOf(a, b, c));
         if (less >= growth.rows.size(table)) {
             throw new NoSuchElementException("all rows are less");
         }
@@ -327,7 +328,7 @@ public final class LeapTables {
         growth.refresh(now);
         look(query);
         int wanted = found.keyOf(first, second, third, fourth);
-        int less = found.before(wanted);
+        int less = found.countBelow(wanted);
         if (less >= found.total) {
             throw new NoSuchElementException("all answers are less");
         }
@@ -601,7 +602,7 @@ public final class LeapTables {
         foundFor = NONE;
     }
 
-    /** Finds the answers of a query, by the rows as they have been refreshed. */
+    /** Does not refresh the rows itself, so that calls stay at most eight deep: its callers do that first. */
     private void look(int query) {
         if (foundFor != query) {
             found.find(now.query(query), now.orders.at(query), growth.rows);
@@ -756,8 +757,7 @@ public final class LeapTables {
             return count;
         }
 
-        /** How many rows of a table are less than a row. */
-        int below(int table, int row) {
+        int countBelow(int table, int row) {
             int count = 0;
             for (int less = 0; less < row && less < ROWS; less++) {
                 count += has(table, less) ? 1 : 0;
@@ -852,7 +852,6 @@ public final class LeapTables {
             return chosen;
         }
 
-        /** The row that the values make. */
         static int row(int code, int chosen) {
             int row = 0;
             for (int column = 0; column < MOST_COLUMNS; column++) {
@@ -978,7 +977,7 @@ public final class LeapTables {
             ruleTotal--;
         }
 
-        /** Whether a rule is idle. */
+        /** Not named isIdle, since no private method may bear the name of a call of the face. */
         boolean rests(int rule) {
             int bound = body(rule).variables(false);
             int needed = Atom.variables(heads.at(rule)) | body(rule).variables(true);
@@ -1081,7 +1080,7 @@ public final class LeapTables {
             key = 0;
             depth = NONE;
             if (variableTotal > 0) {
-                begin();
+                beginVariable();
             }
         }
 
@@ -1096,14 +1095,13 @@ public final class LeapTables {
                     if (depth + 1 >= variableTotal) {
                         return true;
                     }
-                    begin();
+                    beginVariable();
                 }
             }
             return false;
         }
 
-        /** Begins the next variable. */
-        private void begin() {
+        private void beginVariable() {
             depth++;
             reached.put(depth, 0);
             tellers.put(depth, 0);
@@ -1214,8 +1212,7 @@ public final class LeapTables {
             return NONE;
         }
 
-        /** How many keys are less than a key. */
-        int before(int key) {
+        int countBelow(int key) {
             int less = NONE;
             for (int n = 0; n < total; n++) {
                 less = after(less);
@@ -1392,7 +1389,7 @@ public final class LeapTables {
                 covers *= 3;
             }
             leastHalves = 2 * MOST_ATOMS;
-            leastProduct = Long.MAX_VALUE;
+            leastProduct = GREATEST;
             for (int cover = 0; cover < covers; cover++) {
                 weigh(atoms, cover);
             }
@@ -1435,7 +1432,7 @@ public final class LeapTables {
             if (size == 0) {
                 return 0;
             }
-            return product > Long.MAX_VALUE / size ? Long.MAX_VALUE : product * size;
+            return product > GREATEST / size ? GREATEST : product * size;
         }
     }
 

@@ -7,7 +7,10 @@ import java.nio.file.Path;
 import java.util.ArrayList;
 import java.util.Arrays;
 import java.util.List;
+import java.util.Set;
 import java.util.TreeSet;
+import java.util.regex.Matcher;
+import java.util.regex.Pattern;
 
 /** The public face is that of the document, and the source keeps to the rules of the language that a look can find. */
 public final class FaceTest {
@@ -62,11 +65,23 @@ public final class FaceTest {
     private static final List<String> RULED_OUT = List.of("catch", "finally", "synchronized", "assert ", "->", "::",
         ".equals(", "hashCode", "toString", "protected ", "Exact(", "System.out", "Random", "Thread", "package ", "+ \"", "\" +");
 
+    private static final Path SOURCE = Path.of("src/main/java/LeapTables.java");
+
+    /** Rule 4 lists functions of these classes and none of their constants, so Long.MAX_VALUE is outside it. */
+    private static final Pattern OF_A_CLASS = Pattern.compile("\\b([A-Z][A-Za-z]*[a-z][A-Za-z]*)\\.(\\w+\\(?)");
+    private static final Set<String> COUNTING = Set.of("compare(", "max(", "min(", "abs(", "bitCount(", "floorDiv(", "floorMod(");
+    private static final Set<String> OF_ARRAYS = Set.of("copyOf(", "copyOfRange(", "fill(");
+
+    private static final Pattern THROWN = Pattern.compile("throw new (IllegalState|IllegalArgument|IndexOutOfBounds|NoSuchElement)"
+        + "Exception\\(\"[^\"]*\"\\);");
+
     private static int wrong = 0;
 
     public static void main(String[] args) throws Exception {
         checkFace();
+        checkSizes();
         checkSource();
+        checkLibrary();
         System.out.println(wrong == 0 ? "the face and the source are as told" : wrong + " faults");
         if (wrong != 0) {
             System.exit(1);
@@ -125,15 +140,50 @@ public final class FaceTest {
         return text.toString();
     }
 
+    /** Rule 11, as far as it tells numbers. */
+    private static void checkSizes() {
+        List<Class<?>> all = new ArrayList<>(List.of(LeapTables.class.getDeclaredClasses()));
+        all.add(LeapTables.class);
+        need(all.size() <= 12, all.size() + " classes");
+        for (Class<?> each : all) {
+            long fields = Arrays.stream(each.getDeclaredFields()).filter(field -> !Modifier.isStatic(field.getModifiers())).count();
+            need(fields <= 20, each + " has " + fields + " fields");
+            for (Method method : each.getDeclaredMethods()) {
+                need(method.getParameterCount() <= 7, method + " takes too many parameters");
+            }
+        }
+    }
+
+    private static boolean isComment(String code) {
+        return code.startsWith("//") || code.startsWith("*") || code.startsWith("/*");
+    }
+
+    /** Rule 4: what is used of a class that is not one of the file's own. */
+    private static void checkLibrary() throws Exception {
+        Set<String> own = new TreeSet<>();
+        for (Class<?> inside : LeapTables.class.getDeclaredClasses()) {
+            own.add(inside.getSimpleName());
+        }
+        for (String line : Files.readAllLines(SOURCE)) {
+            Matcher use = OF_A_CLASS.matcher(line);
+            while (!isComment(line.trim()) && !line.startsWith("import ") && use.find()) {
+                boolean isCounting = Set.of("Integer", "Long", "Math").contains(use.group(1)) && COUNTING.contains(use.group(2));
+                boolean isOfArrays = use.group(1).equals("Arrays") && OF_ARRAYS.contains(use.group(2));
+                need(own.contains(use.group(1)) || isCounting || isOfArrays, "rule 4 does not list " + use.group());
+            }
+        }
+    }
+
     private static void checkSource() throws Exception {
-        List<String> lines = Files.readAllLines(Path.of("src/main/java/LeapTables.java"));
+        List<String> lines = Files.readAllLines(SOURCE);
         int number = 0;
         for (String line : lines) {
             number++;
             String code = line.trim();
-            if (code.startsWith("//") || code.startsWith("*") || code.startsWith("/*")) {
+            if (isComment(code)) {
                 continue;
             }
+            need(!code.startsWith("throw ") || THROWN.matcher(code).matches(), "line " + number + " throws what rule 6 does not list: " + code);
             for (String word : RULED_OUT) {
                 need(!code.contains(word), "line " + number + " has " + word + ": " + code);
             }
