@@ -69,7 +69,8 @@ public final class FaceTest {
 
     /** Rule 4 lists functions of these classes and none of their constants, so Long.MAX_VALUE is outside it. */
     private static final Pattern OF_A_CLASS = Pattern.compile("\\b([A-Z][A-Za-z]*[a-z][A-Za-z]*)\\.(\\w+\\(?)");
-    private static final Set<String> COUNTING = Set.of("compare(", "max(", "min(", "abs(", "bitCount(", "floorDiv(", "floorMod(");
+    private static final Set<String> COUNTING = Set.of("compare(", "max(", "min(", "abs(", "bitCount(", "floorDiv(",
+        "floorMod(");
     private static final Set<String> OF_ARRAYS = Set.of("copyOf(", "copyOfRange(", "fill(");
 
     private static final Pattern THROWN = Pattern.compile("throw new (IllegalState|IllegalArgument|IndexOutOfBounds|NoSuchElement)"
@@ -146,7 +147,8 @@ public final class FaceTest {
         all.add(LeapTables.class);
         need(all.size() <= 12, all.size() + " classes");
         for (Class<?> each : all) {
-            long fields = Arrays.stream(each.getDeclaredFields()).filter(field -> !Modifier.isStatic(field.getModifiers())).count();
+            long fields = Arrays.stream(each.getDeclaredFields())
+                .filter(field -> !Modifier.isStatic(field.getModifiers())).count();
             need(fields <= 20, each + " has " + fields + " fields");
             for (Method method : each.getDeclaredMethods()) {
                 need(method.getParameterCount() <= 7, method + " takes too many parameters");
@@ -183,7 +185,8 @@ public final class FaceTest {
             if (isComment(code)) {
                 continue;
             }
-            need(!code.startsWith("throw ") || THROWN.matcher(code).matches(), "line " + number + " throws what rule 6 does not list: " + code);
+            need(!code.startsWith("throw ") || THROWN.matcher(code).matches(),
+                "line " + number + " throws what rule 6 does not list: " + code);
             for (String word : RULED_OUT) {
                 need(!code.contains(word), "line " + number + " has " + word + ": " + code);
             }
